@@ -228,18 +228,20 @@ public final class MailRooms {
         if (isPiece(kind)) {
             return new Piece(number, kind);
         }
-        int places = Math.max(0, Math.min(n, MOST_PLACES));
-        return kind <= SIGNS ? new NumberRow(number, kind, places) : new ThingRow(number, kind, places);
+        return kind <= SIGNS ? new NumberRow(number, kind, n) : new ThingRow(number, kind, n);
     }
 
+    /** null: there is no such ITEM. */
     private Item findItem(int number) {
-        return number >= 0 && number < itemCount && number < MOST_ITEMS ? items[number] : null;
+        return number >= 0 && number < MOST_ITEMS ? items[number] : null;
     }
 
+    /** null: there is no such ROOM. */
     private Room findRoom(int number) {
         return number >= 0 && number < ROOMS ? rooms[number] : null;
     }
 
+    /** null: there is no such ROOM, or it has no such DESK. */
     private Desk findDesk(int room, int desk) {
         Room found = findRoom(room);
         return found == null ? null : found.findDesk(desk);
@@ -485,8 +487,9 @@ public final class MailRooms {
         private final Desk[] desks = new Desk[MOST_DESKS];
         private int deskCount = 0;
 
+        /** null: there is no such DESK. */
         private Desk findDesk(int number) {
-            return number >= 0 && number < deskCount && number < MOST_DESKS ? desks[number] : null;
+            return number >= 0 && number < MOST_DESKS ? desks[number] : null;
         }
     }
 

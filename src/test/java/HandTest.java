@@ -9,6 +9,7 @@ public final class HandTest {
         turns(c);
         stampsNumbers(c);
         stampsRows(c);
+        nothingElse(c);
         splits(c);
         splitsBehindTheLastRoom(c);
         splitsThroughAllRooms(c);
@@ -131,6 +132,24 @@ public final class HandTest {
         x.lay(12, 1, 9);
         c.due("hand of a GOLD ALBUM", x.hand(12, 0), 1);
         c.due("a GOLD CARD of a GOLD ALBUM", x.stamps(6), 6);
+    }
+
+    /** An ACT does what it is told to, and not what another one does. */
+    private static void nothingElse(Checks c) {
+        for (int act = COUNT; act <= KEEP; act++) {
+            MailRooms x = Checks.oneOfEach(2);
+            x.lay(8, 0, 5);
+            x.lay(8, 1, 6);
+            x.desk(0, 8, act, true);
+            x.desk(1, 13, COUNT, true);
+            c.due("hand to act " + act, x.hand(8, 0), act == SPLIT ? 3 : 1);
+            c.due("TALLY after act " + act, x.told(0, 0, 0), act == COUNT ? 2 : 0);
+            c.due("PLACE 0 after act " + act, x.at(8, 0), act == TURN ? 6 : 5);
+            c.due("STAMPS after act " + act, x.stamps(5), act == STAMP ? 1 : 0);
+            c.due("the next ROOM after act " + act, x.told(1, 0, 2), act == SPLIT ? 2 : 0);
+            c.due("what is held after act " + act, x.told(0, 0, 1), act == KEEP ? 8 : MailRooms.NONE);
+            c.due("out() after act " + act, x.out(), act == KEEP ? MailRooms.NONE : 8);
+        }
     }
 
     private static void splits(Checks c) {
