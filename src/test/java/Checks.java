@@ -1,18 +1,24 @@
 /** Counts the answers that are not the due ones, and ends a test with exit code 1 if there was one. */
 final class Checks {
     private int wrong = 0;
+    private String sentence = "";
+
+    /** The document's words that the checks from here on are about: they are told with each wrong answer. */
+    void sentence(String words) {
+        sentence = "\"" + words + "\": ";
+    }
 
     void due(String call, int got, int want) {
         if (got != want) {
             wrong++;
-            System.out.println(call + " answered " + got + ", due is " + want);
+            System.out.println(sentence + call + " answered " + got + ", due is " + want);
         }
     }
 
     void holds(String what, boolean isSo) {
         if (!isSo) {
             wrong++;
-            System.out.println("does not hold: " + what);
+            System.out.println(sentence + "does not hold: " + what);
         }
     }
 
